@@ -99,10 +99,9 @@ public final class PieceTest {
         y.rate(0);
         due("heat 900", y.pass(1), 900);
         due("blow at 900", y.blow(0, 0, 0), 0);
-        y.cold(9, 9, 1);
-        y.rate(1);
-        y.pass(1);
-        due("heat then", y.count(1), 900 + 30 - 45 - 1);
+        y.cold(9, 9, 46);
+        y.rate(3);
+        due("heat 899", y.pass(1), 900 + 90 - 45 - 46);
         due("blow below 900", y.blow(0, 0, 0), 3);
         anyColour();
     }
@@ -276,6 +275,12 @@ public final class PieceTest {
         due("open of stored ones", x.open(0), 0);
         due("heap stays", x.count(5), 8);
         due("stored stays", x.piece(0, 4), 1);
+        for (int k = 0; k < 41; k++) {
+            x.blow(k / 30, 0, 2 + k / 25);
+        }
+        due("open bay 2", x.open(2), 1);
+        due("open bay 1 then", x.open(1), 20);
+        due("heap of these", x.count(5), 8 + 84);
     }
 
     private static void toldAnew() {
@@ -319,10 +324,13 @@ public final class PieceTest {
         x.blow(1, 1, 0);
         x.blow(1, 2, 0);
         x.blow(2, 0, 0);
+        x.blow(3, 0, 0);
+        x.blow(3, 0, 0);
         due("nothing is stored yet", x.pay(1), 0);
         x.pass(1);
         due("pay, each kind downwards", x.pay(1), 4 + 0);
         due("pay of gang 2", x.pay(2), 1);
+        due("pay of gang 3", x.pay(3), 3);
         due("pay of gang 0", x.pay(0), 0);
         x.pass(1);
         due("pay then", x.pay(1), 104);

@@ -9,6 +9,7 @@ public final class PotTest {
         buys();
         drops();
         melts();
+        readyAtNeed();
         coolsBack();
         growsWhenReady();
         colours();
@@ -32,6 +33,8 @@ public final class PotTest {
         due("need of sand alone", x.pot(0, 3), 60);
         due("lay odd ash", x.lay(1, 10, 7, 3), 2);
         due("glass of odd ash", x.pot(1, 1), 16);
+        due("need of broken glass", needOf(1, 0, 199), (60 + 20 * 199) / 200);
+        due("need of ash", needOf(1, 199, 0), (60 + 10 * 199) / 200);
         due("need downwards", x.pot(1, 3), (600 + 70 + 60) / 20);
         due("heap then", x.count(5), 297);
         due("batches", x.count(6), 3);
@@ -43,9 +46,16 @@ public final class PotTest {
         due("heap is bare", x.count(5), 0);
     }
 
-    private static void layRefused() {
+    private static int needOf(int sand, int ash, int broken) {
         GlassHut x = new GlassHut();
         x.buy(200);
+        x.lay(0, sand, ash, broken);
+        return x.pot(0, 3);
+    }
+
+    private static void layRefused() {
+        GlassHut x = new GlassHut();
+        x.buy(500);
         x.lay(0, 5, 5, 0);
         String before = Check.all(x);
         due("lay into -1", x.lay(-1, 5, 5, 0), -1);
@@ -135,6 +145,17 @@ public final class PotTest {
         x.pass(1);
         due("done then", x.pot(0, 2), 11);
         due("ready", x.pot(0, 4), 1);
+    }
+
+    private static void readyAtNeed() {
+        GlassHut x = Check.hot();
+        x.lay(0, 1, 24, 0);
+        due("need", x.pot(0, 3), 12);
+        x.pass(3);
+        due("not ready at 9", x.pot(0, 4), 0);
+        x.pass(1);
+        due("done", x.pot(0, 2), 12);
+        due("ready at 12", x.pot(0, 4), 1);
     }
 
     private static void coolsBack() {

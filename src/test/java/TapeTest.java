@@ -139,6 +139,8 @@ public final class TapeTest {
         text("green 5 9; green", fault(11, 2));
         text("green 5 9;green?", fault(10, 2));
         text("a 1 2;b 1 2;a 1 2", fault(12, 2));
+        text("a 1 2;b 1 2;b 3 4", fault(12, 2));
+        text("abc 1 2;de 1 2;fgh 1 2;de 3 4", fault(23, 2));
         String eight = "a 1 2;b 1 2;c 1 2;d 1 2;e 1 2;f 1 2;g 1 2;h 1 2";
         text(eight + ";i 1 2", fault(48, 2));
         text(eight + "; i", fault(49, 2));

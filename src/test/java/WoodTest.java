@@ -198,8 +198,13 @@ public final class WoodTest {
         CHECK.due("go to where it stands", x.go(0), false);
         CHECK.due("go to -1", x.go(-1), false);
         CHECK.due("go to 5", x.go(5), false);
-        x.lay(5, 1, 200, 0);
-        CHECK.due("go with a batch", x.go(1), false);
+        for (int k = 0; k < 6; k++) {
+            x.lay(k, 1, 200, 0);
+            CHECK.due("go with a batch in pot " + k, x.go(1), false);
+            if (k < 5) {
+                x.drop(k);
+            }
+        }
         x.pass(10);
         x.kind(0, 50, 1, 1, -1, 0, 3);
         x.blow(0, 0, 5);
