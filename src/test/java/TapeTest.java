@@ -12,6 +12,8 @@ public final class TapeTest {
         spanFaults();
         faultKeepsSpans();
         everyByteAtOnePlace();
+        bytesBehindTheEnd();
+        fullTapes();
         CHECK.finish();
     }
 
@@ -162,6 +164,39 @@ public final class TapeTest {
         due("the colour of the batch stays", x.pot(0, 5), 1);
         x.lay(1, 50, 50, 0);
         due("no colour without spans", x.pot(1, 5), -1);
+    }
+
+    /** What end cut off, or an earlier text left, is no part of a text. */
+    private static void bytesBehindTheEnd() {
+        String[] texts = {"a 1 23", "a 12 3", "ab 1 2", "a  1 2", "a 1 2;b 3 4"};
+        for (String text : texts) {
+            for (int n = 0; n < text.length(); n++) {
+                GlassHut x = new GlassHut();
+                Check.tape(x, text);
+                x.end(n);
+                GlassHut y = new GlassHut();
+                due("the first " + n + " of '" + text + "'", x.spans(), Check.spans(y, text.substring(0, n)));
+            }
+        }
+        GlassHut x = new GlassHut();
+        Check.tape(x, "a 1 234");
+        x.end(5);
+        due("TO without what is cut off", x.spans(), 1);
+        Check.tape(x, "abcdefghijkl");
+        x.end(10);
+        due("a WORD without what is cut off", x.spans(), fault(10, 0));
+        Check.tape(x, "a 1 2      ");
+        x.end(3);
+        due("blanks that are cut off", x.spans(), fault(3, 0));
+    }
+
+    private static void fullTapes() {
+        text("a".repeat(200), fault(0, 1));
+        text("a " + "1".repeat(198), fault(2, 1));
+        text(" ".repeat(200), 0);
+        text(" ".repeat(190) + "abcdefghij", fault(200, 0));
+        text(" ".repeat(195) + "a 1 2", 1);
+        text(" ".repeat(194) + "a 1 2;", fault(200, 0));
     }
 
     private static void everyByteAtOnePlace() {

@@ -163,6 +163,11 @@ public final class WoodTest {
             due("cold " + k, x.cold(0, 0, 1), k);
         }
         due("cold 21", x.cold(0, 0, 1), -1);
+        x.right(0, 10000);
+        x.cut(10000);
+        x.rate(10);
+        due("heat under twenty spells", x.pass(1), 300 - 19);
+        due("heat under one", x.pass(1), 281 + 300 - 14 - 1);
     }
 
     private static void coldSums() {
