@@ -1,18 +1,34 @@
 import java.nio.charset.StandardCharsets;
+import java.util.function.Function;
+import java.util.function.Supplier;
 
 /** What the tests share: the tally of answers, and short ways to bring a hut into a state. */
 final class Check {
     private int wrong = 0;
+    private String sentence = "";
+
+    /** Begins the test of a sentence of the document, whose words go with each wrong answer. */
+    void sentence(String words) {
+        sentence = "'" + words + "': ";
+    }
 
     void due(String call, long got, long want) {
         if (got != want) {
             wrong++;
-            System.out.println(call + " answered " + got + ", due is " + want);
+            System.out.println(sentence + call + " answered " + got + ", due is " + want);
         }
     }
 
     void due(String call, boolean got, boolean want) {
         due(call, got ? 1 : 0, want ? 1 : 0);
+    }
+
+    /** A refused call answers as told, and its hut then holds what a twin holds to which the call was not made. */
+    void refuses(String call, Supplier<GlassHut> state, Function<GlassHut, Object> told, Object want) {
+        GlassHut x = state.get();
+        Object got = told.apply(x);
+        due(call + " (answer " + got + ") is refused with " + want, got.equals(want), true);
+        due(call + " leaves all as it was", Probe.all(x).equals(Probe.all(state.get())), true);
     }
 
     void finish() {
