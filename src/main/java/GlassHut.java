@@ -876,7 +876,6 @@ public final class GlassHut {
         long[] worth;
         long[] numbers;
         final int[] usable = new int[KINDS];
-        final int[] rowBack = new int[KINDS];
         final int[] chosen = new int[KINDS];
         int usableMany;
         boolean made;
@@ -911,33 +910,33 @@ public final class GlassHut {
         }
 
         void fillRow(Kind[] kinds, int glass, int minutes) {
-            for (int u = 0; u < usableMany; u++) {
-                int weight = kinds[usable[u]].weight;
-                rowBack[u] = weight <= glass ? ((glass - weight) % RING) * WIDTH : NONE;
-            }
             int row = (glass % RING) * WIDTH;
             for (int m = 0; m <= minutes; m++) {
-                fillCell(kinds, row + m, m);
+                worth[row + m] = 0;
+                numbers[row + m] = 0;
+            }
+            // the first of equals stays: so the least kind comes as often as it can
+            for (int u = 0; u < usableMany; u++) {
+                Kind one = kinds[usable[u]];
+                if (one.weight <= glass) {
+                    addOneMore(one, 1L << (NUMBER_BITS * usable[u]), row, minutes,
+                            ((glass - one.weight) % RING) * WIDTH);
+                }
             }
         }
 
-        void fillCell(Kind[] kinds, int cell, int minutes) {
-            long best = 0;
-            long bestNumbers = 0;
-            for (int u = 0; u < usableMany; u++) {
-                Kind one = kinds[usable[u]];
-                if (rowBack[u] != NONE && one.minutes <= minutes) {
-                    int back = rowBack[u] + minutes - one.minutes;
-                    long sum = worth[back] + (long) one.price * PRICE_STEP - one.minutes;
-                    // the first of equals stays: so the least kind comes as often as it can
-                    if (sum > best) {
-                        best = sum;
-                        bestNumbers = numbers[back] + (1L << (NUMBER_BITS * usable[u]));
-                    }
+        /** Betters a row by one more piece of a kind beside what the row further back holds. */
+        void addOneMore(Kind kind, long number, int row, int minutes, int backRow) {
+            long gain = (long) kind.price * PRICE_STEP - kind.minutes;
+            int back = backRow;
+            for (int m = kind.minutes; m <= minutes; m++) {
+                long sum = worth[back] + gain;
+                if (sum > worth[row + m]) {
+                    worth[row + m] = sum;
+                    numbers[row + m] = numbers[back] + number;
                 }
+                back++;
             }
-            worth[cell] = best;
-            numbers[cell] = bestNumbers;
         }
 
         int keep(Kind[] kinds, long packed) {

@@ -4,6 +4,8 @@ import java.lang.reflect.Method;
 import java.lang.reflect.Modifier;
 import java.nio.file.Files;
 import java.nio.file.Path;
+import java.util.ArrayList;
+import java.util.List;
 import java.util.Set;
 import java.util.TreeSet;
 import java.util.regex.Matcher;
@@ -23,6 +25,8 @@ public final class FaceTest {
     public static void main(String[] args) throws Exception {
         face();
         nested();
+        sizes();
+        methodLines();
         forbiddenWords();
         CHECK.finish();
     }
@@ -70,6 +74,39 @@ public final class FaceTest {
                 CHECK.due("name of " + one, names.contains(one.getName()), false);
             }
         }
+    }
+
+    private static void sizes() {
+        List<Class<?>> classes = new ArrayList<>(List.of(GlassHut.class.getDeclaredClasses()));
+        classes.add(GlassHut.class);
+        CHECK.due("classes (" + classes.size() + ") are twelve at most", classes.size() <= 12, true);
+        for (Class<?> one : classes) {
+            int fields = 0;
+            for (Field field : one.getDeclaredFields()) {
+                boolean kept = Modifier.isStatic(field.getModifiers());
+                fields += kept ? 0 : 1;
+                CHECK.due(field + " is a constant number", !kept
+                        || Modifier.isFinal(field.getModifiers()) && field.getType() == int.class, true);
+            }
+            CHECK.due(one + " has " + fields + " fields, twenty at most", fields <= 20, true);
+            for (Method method : one.getDeclaredMethods()) {
+                CHECK.due(method + " has seven parameters at most", method.getParameterCount() <= 7, true);
+            }
+        }
+    }
+
+    /** A method begins at a line that ends with a brace behind its parameters, and ends at a brace as far in. */
+    private static void methodLines() throws Exception {
+        String text = Files.readString(Path.of("src/main/java/GlassHut.java"));
+        String method = "(?ms)^( {4}| {8})(?! )[^\\n;]*\\([^\\n;{}]*\\) \\{\\n.*?^\\1\\}";
+        Matcher found = Pattern.compile(method).matcher(text);
+        int methods = 0;
+        while (found.find()) {
+            methods++;
+            long lines = found.group().lines().count();
+            CHECK.due(found.group().lines().findFirst().get() + " has " + lines + " lines", lines <= 60, true);
+        }
+        CHECK.due("methods (" + methods + ") are found", methods >= 60, true);
     }
 
     private static void forbiddenWords() throws Exception {
