@@ -187,8 +187,14 @@ public final class PlanEdgesTest {
         shifted(y, 0, 8, 0, 0, 0, 8, 8);
         CHECK.sentence("the greatest sum of prices ahead of the fewest MINUTES");
         y.kind(0, 1, 60, 2, -1, 0, 1);
-        due("one coin more for 472 minutes", y.shift(480, 8, 0), 16);
+        due("eight coins more for 472 minutes", y.shift(480, 8, 0), 16);
         shifted(y, 8, 0, 0, 0, 0, 480, 8);
+        y.kind(1, 8, 1, 15, -1, 0, 1);
+        due("one coin more for 479 minutes", y.shift(480, 8, 0), 16);
+        shifted(y, 8, 0, 0, 0, 0, 480, 8);
+        y.kind(1, 8, 1, 16, -1, 0, 1);
+        due("no coin more for 479 minutes", y.shift(480, 8, 0), 16);
+        shifted(y, 0, 1, 0, 0, 0, 1, 8);
     }
 
     private static void mostOfTheLeastKind() {
