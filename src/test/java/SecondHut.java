@@ -6,7 +6,10 @@ import java.util.TreeMap;
 import java.util.regex.Matcher;
 import java.util.regex.Pattern;
 
-/** The document once more, written without a look at the class: what happened is kept, and all else is asked of it. */
+/**
+ * The document once more, in another form: what happened is kept, and all else is worked out from it. It has the same
+ * author as the class, who knew the class: a slip shows in a comparison, a sentence misread in both does not.
+ */
 final class SecondHut {
     private static final int NONE = -1;
 
